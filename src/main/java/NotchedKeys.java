@@ -51,8 +51,9 @@ public final class NotchedKeys {
     /** Stands in place of a key's number where no key is left out. */
     private static final int NO_EXCEPTION = -1;
 
-    private static final double TWO_TO_52 = 4503599627370496.0;
-    private static final double TWO_TO_23 = 8388608.0;
+    /** How many bits of a double and of a float stand behind the exponent. */
+    private static final int DOUBLE_BITS = 52;
+    private static final int FLOAT_BITS = 23;
 
     private final Codes codes;
     private final ApartCodes apart;
@@ -1011,8 +1012,8 @@ public final class NotchedKeys {
 
     /**
      * The bits of a share, made by hand as the library's function is not among those of LANGUAGE.md:
-     * the share is brought to 1 or more and below 2, so that what is above 1 are the bits behind the
-     * exponent. The loops end long before their bounds, as a share is 1/81 to 1.
+     * the share, which is at most 1, is brought to 1 or more and below 2, so that what is above 1 are
+     * the bits behind the exponent. The loop ends long before its bound, as a share is at least 1/81.
      */
     private static long doubleBits(double share) {
         if (share <= 0.0) {
@@ -1020,18 +1021,14 @@ public final class NotchedKeys {
         }
         double scaled = share;
         long exponent = 1023;
-        for (int i = 0; i < 1000 && scaled >= 2.0; i++) {
-            scaled = scaled / 2.0;
-            exponent++;
-        }
         for (int i = 0; i < 1000 && scaled < 1.0; i++) {
             scaled = scaled * 2.0;
             exponent--;
         }
-        return (exponent << 52) + (long) ((scaled - 1.0) * TWO_TO_52);
+        return (exponent << DOUBLE_BITS) + (long) ((scaled - 1.0) * (double) (1L << DOUBLE_BITS));
     }
 
-    /** As doubleBits; each float is a double too, and none of the steps rounds. */
+    /** As doubleBits, but the mean can be above 2; each float is a double too, and no step rounds. */
     private static int floatBits(float mean) {
         if (mean <= 0.0f) {
             return 0;
@@ -1046,7 +1043,7 @@ public final class NotchedKeys {
             scaled = scaled * 2.0;
             exponent--;
         }
-        return (exponent << 23) + (int) ((scaled - 1.0) * TWO_TO_23);
+        return (exponent << FLOAT_BITS) + (int) ((scaled - 1.0) * (double) (1 << FLOAT_BITS));
     }
 
     /** What is so of codes whatever keys and settings there are. */

@@ -38,6 +38,7 @@ public final class PromiseTest {
         snapshot();
         undo();
         undoAll();
+        lastOfTwelve();
         looksAtKeys();
         looksAtLocks();
         looksAtPersons();
@@ -306,7 +307,15 @@ public final class PromiseTest {
         due("uses of the lock stay", x.lock(0, 3), 1);
         dueThrow("none left", () -> x.retire(0), INDEX);
         due("cut again", x.cut(c("0011"), 0), 0);
-        due("as new", x.key(0, 3) + x.key(0, 5) + x.key(0, 9), 0);
+        x.set(2, 1);
+        x.turn(0, 0);
+        x.lose(0);
+        due("retire a used, worn and lost one", x.retire(0), 0);
+        due("cut again", x.cut(c("0011"), 0), 0);
+        due("without uses", x.key(0, 3), 0);
+        due("not lost", x.key(0, 5), 0);
+        due("not worn", x.key(0, 9), 0);
+        due("with its first code", x.key(0, 2), c("0011"));
         twelveKeys();
         due("retire the first of twelve", x.retire(0), 11);
         for (int k = 0; k < 11; k++) {
@@ -797,41 +806,65 @@ public final class PromiseTest {
     /** Each undoable call is undone to the same digest, and goes to a state of its own. */
     private static void undoAll() {
         Check.Call[] calls = {
-            () -> x.cut(c("2100"), 1), () -> x.deepen(0, 3), () -> x.retire(0), () -> x.give(1, 2),
+            () -> x.cut(c("2100"), 1), () -> x.deepen(0, 2), () -> x.retire(0), () -> x.give(1, 2),
             () -> x.lose(0), () -> x.find(1), () -> x.ward(4, 9), () -> x.ward(0, 9), () -> x.guest(0, 4),
             () -> x.guest(0, -1), () -> x.take(0), () -> x.turn(0, 0), () -> x.turn(0, 1), () -> x.set(2, 7),
             () -> x.goBack()
         };
         for (int i = 0; i < calls.length; i++) {
             fresh();
+            obeyText("c0011@0;f0");
+            x.keep();
             x.ward(0, 1);
             x.ward(1, 80);
             x.guest(0, 3);
-            x.set(2, 1);
-            x.cut(c("0011"), 0);
-            x.keep();
-            x.cut(c("0200"), 1);
-            x.lose(1);
-            while (x.count(11) > 3) {
-                x.undo();
-            }
-            x.cut(c("0011"), 0);
-            x.cut(c("0200"), 1);
-            x.lose(1);
+            obeyText("c0200@1;l1;t0,0;t0,1;t0,0;t0,0;f0");
             long before = x.digest();
-            int saved = x.count(11);
             calls[i].run();
-            due("call " + i + " saves", x.count(11), saved < 6 ? saved + 1 : 6);
+            due("call " + i + " saves", x.count(11), 6);
             check.due("call " + i + " changes", Boolean.toString(before == x.digest()), "false");
-            x.undo();
-            x.set(2, 1);
-            x.undo();
-            if (saved < 6) {
-                due("call " + i + " undone", x.digest(), before);
-            }
-            due("call " + i + " undone: keys", x.count(0), 2);
-            due("call " + i + " undone: lock", x.lock(0, 1), 3);
+            due("call " + i + " undone", x.undo(), 5);
+            due("call " + i + " undone", x.digest(), before);
         }
+    }
+
+    /** As many keys as there can be, of which the last one is looked at in every way. */
+    private static void lastOfTwelve() {
+        twelveKeys();
+        int last = LEVEL_4[11];
+        x.ward(2, last);
+        x.retire(0);
+        x.cut(LEVEL_4[0], 2);
+        due("the last key", x.key(11, 0), LEVEL_4[0]);
+        x.ward(2, LEVEL_4[0]);
+        due("who could open", x.lock(2, 5), 4);
+        due("the keys that open", x.lock(2, 2), 1 << 11);
+        due("the keys of a person", x.person(2, 0) >> 11, 1);
+        due("the locks of a person", x.person(2, 1), 4);
+        due("keys of the level", x.level(4, 2), 12);
+        check.due("mean level", Float.toString(x.meanLevel()), "4.0");
+        x.set(2, 1);
+        x.turn(11, 2);
+        // 0022 is 1022 now, and over 1012 and 1021
+        due("keys over 1012", x.key(5, 0), c("1012"));
+        due("keys over 1012", x.key(5, 7), 1 << 11);
+        due("keys under 1022", x.key(11, 8), (1 << 5) + (1 << 6));
+        due("crossed pairs", x.count(3), 2);
+        due("crossed with the last", x.crossedIn(5), 0);
+        due("crossed with others", x.crossedIn(11), 0);
+        x.lose(11);
+        due("lost", x.count(1), 1);
+        due("who could open", x.lock(2, 5), 16);
+        x.keep();
+        x.retire(11);
+        due("goBack to twelve", x.goBack(), 12);
+        due("the last key", x.key(11, 0), c("1022"));
+        due("its first code", x.key(11, 2), c("0022"));
+        due("its uses", x.key(11, 3), 1);
+        due("its wear", x.key(11, 9), 1);
+        x.find(11);
+        due("undo", x.undo(), 5);
+        due("lost again", x.key(11, 5), 1);
     }
 
     private static void looksAtKeys() {
@@ -1053,6 +1086,8 @@ public final class PromiseTest {
             due("pick " + rank, x.pick(rank), LEVEL_4[rank]);
         }
         due("pick 19", x.pick(19), -1);
+        fresh();
+        due("pick before all else", x.pick(18), LEVEL_4[18]);
         due("pick of a far rank", x.pick(Integer.MAX_VALUE), -1);
         dueThrow("pick -1", () -> x.pick(-1), INDEX);
         dueThrow("most 2", () -> x.most(2), ARGUMENT);
@@ -1152,6 +1187,12 @@ public final class PromiseTest {
         dueThrow("uses -1", () -> x.worn(0, -1), ARGUMENT);
         dueThrow("crossedIn of no key", () -> x.crossedIn(2), INDEX);
         dueThrow("crossedIn of key -1", () -> x.crossedIn(-1), INDEX);
+        fresh();
+        x.set(2, 1);
+        x.cut(c("0002"), 0);
+        x.cut(c("1000"), 0);
+        due("behind the first use", x.crossedIn(0), 1);
+        due("1100, 1110, 1111, 2111, 2211, 2221 are apart from 0002", x.crossedIn(1), 7);
         // 0002 goes 1002, 1102, 1112, 2112, 2212, 2222; it meets 2210 as the last one
         fresh();
         x.cut(c("0002"), 0);
@@ -1280,5 +1321,26 @@ public final class PromiseTest {
         obeyText("l3;t4,1;t3,1");
         due("digest with a stop", x.digest(), told(true, ""));
         due("digest again", x.digest(), told(true, ""));
+        // shares and means of many sizes, as bits
+        fresh();
+        x.set(3, 0);
+        x.cut(0, 0);
+        due("nothing free, mean 0", x.digest(), told(false, ""));
+        x.lose(0);
+        x.cut(1, 0);
+        due("few free, mean 0.5", x.digest(), told(false, ""));
+        x.lose(1);
+        x.cut(0, 0);
+        x.retire(0);
+        due("mean 0.5", x.digest(), told(false, ""));
+        x.retire(1);
+        due("mean 1", x.digest(), told(false, ""));
+        x.cut(c("0222"), 0);
+        due("mean 3.5", x.digest(), told(false, ""));
+        x.cut(c("2000"), 0);
+        due("mean 3", x.digest(), told(false, ""));
+        x.cut(c("1022"), 0);
+        x.cut(c("1202"), 0);
+        due("mean 3.8", x.digest(), told(false, ""));
     }
 }
