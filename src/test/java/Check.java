@@ -5,6 +5,12 @@ final class Check {
     }
 
     private int wrong;
+    private String about = "";
+
+    /** What the next answers are about; it is told with each wrong one. */
+    void about(String text) {
+        about = text + ": ";
+    }
 
     /** The answer as a text, or the simple name of the exception. */
     static String answer(Call call) {
@@ -22,8 +28,12 @@ final class Check {
     void due(String what, String got, String want) {
         if (!got.equals(want)) {
             wrong++;
-            System.out.println(what + " answered " + got + ", due is " + want);
+            System.out.println(about + what + " answered " + got + ", due is " + want);
         }
+    }
+
+    void dueTrue(String what, boolean got) {
+        due(what, Boolean.toString(got), "true");
     }
 
     /** The call throws this, and the object tells the same hash and saved states as before. */

@@ -1253,94 +1253,50 @@ public final class PromiseTest {
         dueShare("all are free", x.freeShare(), 1.0);
     }
 
-    private static long mixed(long hash, long... values) {
-        long mixed = hash;
-        for (long value : values) {
-            mixed = 31 * mixed + value;
-        }
-        return mixed;
-    }
-
-    /** The digest of an object as told by its looks; Model.java works it out without them. */
-    private static long told(boolean hasSnapshot, String buffer) {
-        long hash = 3613;
-        for (int what = 0; what <= 11; what++) {
-            hash = mixed(hash, x.count(what));
-        }
-        hash = mixed(hash, x.setting(0), x.setting(1), x.setting(2), x.setting(3));
-        for (int k = 0; k < x.count(0); k++) {
-            for (int what = 0; what <= 9; what++) {
-                hash = mixed(hash, x.key(k, what));
-            }
-            hash = mixed(hash, x.why(k, 0), x.why(k, 1), x.why(k, 2), x.why(k, 3), x.crossedIn(k));
-        }
-        for (int place = 0; place < 6; place++) {
-            for (int what = 0; what <= 5; what++) {
-                hash = mixed(hash, x.lock(place, what));
-            }
-        }
-        for (int person = 0; person < 4; person++) {
-            hash = mixed(hash, x.person(person, 0), x.person(person, 1), x.person(person, 2));
-        }
-        for (int code = 0; code < 81; code++) {
-            hash = mixed(hash, x.code(code, 2), x.code(code, 3), x.code(code, 4), x.code(code, 5));
-        }
-        for (int level = 0; level < 9; level++) {
-            hash = mixed(hash, x.level(level, 0), x.level(level, 1), x.level(level, 2), x.level(level, 3));
-        }
-        hash = mixed(hash, x.stopped(0), x.stopped(1), x.most(0), x.most(1), x.pick(0), x.pick(1), x.pick(2));
-        hash = mixed(hash, Double.doubleToLongBits(x.freeShare()), Float.floatToIntBits(x.meanLevel()));
-        hash = mixed(hash, hasSnapshot ? 1 : 0, buffer.length());
-        for (int i = 0; i < buffer.length(); i++) {
-            hash = mixed(hash, buffer.charAt(i));
-        }
-        return hash;
-    }
-
     private static void digest() {
         fresh();
-        due("digest of a new object", x.digest(), told(false, ""));
+        due("digest of a new object", x.digest(), Told.digest(x, false, ""));
         write("c01~!");
-        due("digest with a buffer", x.digest(), told(false, "c01~!"));
+        due("digest with a buffer", x.digest(), Told.digest(x, false, "c01~!"));
         x.keep();
-        due("digest with a snapshot", x.digest(), told(true, "c01~!"));
+        due("digest with a snapshot", x.digest(), Told.digest(x, true, "c01~!"));
         due("saves nothing", x.count(11), 0);
         for (int i = 0; i < 12; i++) {
             x.cut(LEVEL_4[i], i % 3);
             x.ward(i % 6, LEVEL_4[i + 1] - 3);
-            due("digest with keys", x.digest(), told(true, "c01~!"));
+            due("digest with keys", x.digest(), Told.digest(x, true, "c01~!"));
             x.turn(i, i % 6);
-            due("digest with uses", x.digest(), told(true, "c01~!"));
+            due("digest with uses", x.digest(), Told.digest(x, true, "c01~!"));
         }
         x.lose(6);
         x.lose(7);
         x.set(3, 0);
         x.set(1, 5);
         x.deepen(0, 0);
-        due("digest with a deeper key", x.digest(), told(true, "c01~!"));
+        due("digest with a deeper key", x.digest(), Told.digest(x, true, "c01~!"));
         obeyText("l3;t4,1;t3,1");
-        due("digest with a stop", x.digest(), told(true, ""));
-        due("digest again", x.digest(), told(true, ""));
+        due("digest with a stop", x.digest(), Told.digest(x, true, ""));
+        due("digest again", x.digest(), Told.digest(x, true, ""));
         // shares and means of many sizes, as bits
         fresh();
         x.set(3, 0);
         x.cut(0, 0);
-        due("nothing free, mean 0", x.digest(), told(false, ""));
+        due("nothing free, mean 0", x.digest(), Told.digest(x, false, ""));
         x.lose(0);
         x.cut(1, 0);
-        due("few free, mean 0.5", x.digest(), told(false, ""));
+        due("few free, mean 0.5", x.digest(), Told.digest(x, false, ""));
         x.lose(1);
         x.cut(0, 0);
         x.retire(0);
-        due("mean 0.5", x.digest(), told(false, ""));
+        due("mean 0.5", x.digest(), Told.digest(x, false, ""));
         x.retire(1);
-        due("mean 1", x.digest(), told(false, ""));
+        due("mean 1", x.digest(), Told.digest(x, false, ""));
         x.cut(c("0222"), 0);
-        due("mean 3.5", x.digest(), told(false, ""));
+        due("mean 3.5", x.digest(), Told.digest(x, false, ""));
         x.cut(c("2000"), 0);
-        due("mean 3", x.digest(), told(false, ""));
+        due("mean 3", x.digest(), Told.digest(x, false, ""));
         x.cut(c("1022"), 0);
         x.cut(c("1202"), 0);
-        due("mean 3.8", x.digest(), told(false, ""));
+        due("mean 3.8", x.digest(), Told.digest(x, false, ""));
     }
 }
