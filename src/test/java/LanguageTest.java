@@ -43,6 +43,7 @@ public final class LanguageTest {
         imports(code);
         thrown(code);
         face();
+        groups(text);
         members();
         lengths(code);
         check.due("signs of the text", Boolean.toString(text.chars().allMatch(c -> c < 127)), "true");
@@ -97,6 +98,24 @@ public final class LanguageTest {
         Constructor<?>[] constructors = NotchedKeys.class.getDeclaredConstructors();
         check.due("constructors", constructors.length, 1);
         check.due("the constructor's parameters", constructors[0].getParameterCount(), 0);
+    }
+
+    /** The calls stand in the document's order, ahead of each group the comment that the interface has there. */
+    private static void groups(String text) throws IOException {
+        List<String> due = new ArrayList<>();
+        Matcher group = Pattern.compile("(?m)^Ahead of the calls (.*) the interface says: (---- .*)\\.$")
+                .matcher(Files.readString(DOCUMENT));
+        while (group.find()) {
+            due.add(group.group(2));
+            due.addAll(List.of(group.group(1).replace("`", "").split(", ")));
+        }
+        List<String> got = new ArrayList<>();
+        Matcher line = Pattern.compile("(?m)^    (?:// (---- .*)|public \\w+ (\\w+)\\(.*)$").matcher(text);
+        while (line.find()) {
+            got.add(line.group(1) != null ? line.group(1) : line.group(2));
+        }
+        check.due("the document's groups and calls", due.size(), 5 + 35);
+        check.due("the groups", got.subList(0, Math.min(got.size(), due.size())).toString(), due.toString());
     }
 
     private static String names(Class<?>[] types) {
